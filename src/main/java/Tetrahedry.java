@@ -1504,15 +1504,18 @@ public final class Tetrahedry {
         static final int MOST = 99;
         static final int MOST_BLOCKS_OF_THIN = 3;
         private static final int THIN_OF_BLOCK = 64;
+        private static final int THIN_BEHIND_FACE = 8;
         private static final int MOST_STEPS = 1000000;
         private final Gluings gluings;
         private final Cells cells;
         private final int[] counts = new int[Gluings.MOST * KINDS];
-        private final int[] thin = new int[MOST_BLOCKS_OF_THIN * KINDS];
-        /** The blocks of a part, each glued to one before it, so that what cannot match is seen early. */
+        /** The blocks of a part, each but the first glued by the face that is told here to one before it. */
         private final int[] line = new int[MOST_BLOCKS_OF_THIN];
+        private final int[] backFaces = new int[MOST_BLOCKS_OF_THIN];
         private final int[] placeInLine = new int[MOST_BLOCKS_OF_THIN];
         private int inLine;
+        private final int[] tries = new int[MOST_BLOCKS_OF_THIN];
+        /** Thin pieces of a block: a bit for each kind of triangles, then 0, or 1 to 3 for its quad. */
         private final int[] choices = new int[MOST_BLOCKS_OF_THIN];
         private int thinWays;
         private int thinSeen = -1;
@@ -1557,26 +1560,25 @@ public final class Tetrahedry {
             for (int at = 0; at < gluings.count * Shape.CORNERS && match; at++) {
                 int block = at / Shape.CORNERS;
                 int face = at % Shape.CORNERS;
-                match = !gluings.isLowerSide(block, face) || doFacesMatch(counts, block, face);
+                match = !gluings.isLowerSide(block, face) || doFacesMatch(block, face);
             }
             return match;
         }
 
-        private boolean doFacesMatch(int[] pieces, int block, int face) {
+        private boolean doFacesMatch(int block, int face) {
             int other = gluings.otherOf(block, face);
             int order = gluings.orderOf(block, face);
             boolean match = true;
             for (int k = 0; k < 3 && match; k++) {
                 int corner = Shape.cornerOfFace(face, k);
-                match = arcs(pieces, block, face, corner)
-                        == arcs(pieces, other, Shape.at(order, face), Shape.at(order, corner));
+                match = arcs(block, face, corner) == arcs(other, Shape.at(order, face), Shape.at(order, corner));
             }
             return match;
         }
 
-        private static int arcs(int[] pieces, int block, int face, int corner) {
+        private int arcs(int block, int face, int corner) {
             int quad = Shape.CORNERS + Shape.pairOf(Shape.edgeWith(corner, face));
-            return pieces[block * KINDS + corner] + pieces[block * KINDS + quad];
+            return counts[block * KINDS + corner] + counts[block * KINDS + quad];
         }
 
         boolean areSingle() {
@@ -1623,7 +1625,7 @@ public final class Tetrahedry {
             }
             int sum = 0;
             for (int k = 0; k < 3; k++) {
-                sum += arcs(counts, block, face, Shape.cornerOfFace(face, k));
+                sum += arcs(block, face, Shape.cornerOfFace(face, k));
             }
             return sum;
         }
@@ -1646,20 +1648,22 @@ public final class Tetrahedry {
                 placeInLine[block] = -1;
             }
             inLine = 0;
-            queue(cells.wholes.lowest[whole]);
+            queue(cells.wholes.lowest[whole], 0);
             for (int place = 0; place < inLine; place++) {
+                int block = line[place];
                 for (int face = 0; face < Shape.CORNERS; face++) {
-                    if (!gluings.isOpen(line[place], face)) {
-                        queue(gluings.otherOf(line[place], face));
+                    if (!gluings.isOpen(block, face)) {
+                        queue(gluings.otherOf(block, face), Shape.at(gluings.orderOf(block, face), face));
                     }
                 }
             }
         }
 
-        private void queue(int block) {
+        private void queue(int block, int backFace) {
             if (placeInLine[block] < 0) {
                 placeInLine[block] = inLine;
                 line[inLine] = block;
+                backFaces[inLine] = backFace;
                 inLine++;
             }
         }
@@ -1667,33 +1671,44 @@ public final class Tetrahedry {
         private int thinOfLine() {
             int found = 0;
             int place = 0;
-            choices[0] = -1;
+            tries[0] = -1;
             for (int step = 0; step < MOST_STEPS && place >= 0; step++) {
-                choices[place]++;
-                if (choices[place] >= THIN_OF_BLOCK) {
+                tries[place]++;
+                if (tries[place] >= (place == 0 ? THIN_OF_BLOCK : THIN_BEHIND_FACE)) {
                     place--;
-                    continue;
-                }
-                choose(line[place], choices[place]);
-                if (doesFit(place)) {
+                } else if (choose(place) && doesFit(place)) {
                     if (place == inLine - 1) {
                         found++;
                     } else {
                         place++;
-                        choices[place] = -1;
+                        tries[place] = -1;
                     }
                 }
             }
             return found;
         }
 
-        /** The low four bits of a choice are its triangles, the rest is 0 or tells its quad. */
-        private void choose(int block, int choice) {
-            for (int kind = 0; kind < KINDS; kind++) {
-                boolean has = kind < Shape.CORNERS
-                        ? (choice >> kind & 1) == 1 : choice >> 4 == kind - Shape.CORNERS + 1;
-                thin[block * KINDS + kind] = has ? 1 : 0;
+        /** Behind a face that has its arcs, only a block's quad and the triangle across from the face are free. */
+        private boolean choose(int place) {
+            int turn = tries[place];
+            if (place == 0) {
+                choices[0] = turn;
+                return true;
             }
+            int face = backFaces[place];
+            int arcs = arcsBehind(line[place], face);
+            int quad = turn >> 1;
+            int triangles = (turn & 1) << face;
+            for (int k = 0; k < 3; k++) {
+                int corner = Shape.cornerOfFace(face, k);
+                int left = (arcs >> 2 * corner & 3) - (corner == (face ^ quad) ? 1 : 0);
+                if (left < 0 || left > 1) {
+                    return false;
+                }
+                triangles |= left << corner;
+            }
+            choices[place] = triangles | quad << 4;
+            return true;
         }
 
         private boolean doesFit(int place) {
@@ -1701,12 +1716,34 @@ public final class Tetrahedry {
             boolean fits = true;
             for (int face = 0; face < Shape.CORNERS && fits; face++) {
                 if (!gluings.isOpen(block, face)) {
-                    boolean later = placeInLine[gluings.otherOf(block, face)] < 0
-                            || placeInLine[gluings.otherOf(block, face)] > place;
-                    fits = later || doFacesMatch(thin, block, face);
+                    int otherPlace = placeInLine[gluings.otherOf(block, face)];
+                    boolean later = otherPlace < 0 || otherPlace > place;
+                    fits = later || arcsBehind(block, face) == thinArcs(choices[place], face);
                 }
             }
             return fits;
+        }
+
+        /** The arcs on the face to which a face is glued, told by the corners of the latter. */
+        private int arcsBehind(int block, int face) {
+            int order = gluings.orderOf(block, face);
+            int arcs = thinArcs(choices[placeInLine[gluings.otherOf(block, face)]], Shape.at(order, face));
+            int told = 0;
+            for (int k = 0; k < Shape.CORNERS; k++) {
+                told |= (arcs >> 2 * Shape.at(order, k) & 3) << 2 * k;
+            }
+            return told;
+        }
+
+        /** Two bits for each corner; the quad of a number leaves two corners together that differ by its bits. */
+        private static int thinArcs(int choice, int face) {
+            int quad = choice >> 4;
+            int arcs = quad == 0 ? 0 : 1 << 2 * (face ^ quad);
+            for (int k = 0; k < 3; k++) {
+                int corner = Shape.cornerOfFace(face, k);
+                arcs += (choice >> corner & 1) << 2 * corner;
+            }
+            return arcs;
         }
     }
 }
