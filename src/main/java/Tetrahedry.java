@@ -900,7 +900,7 @@ public final class Tetrahedry {
         private void tryFrom(int first, int order) {
             begin(first, order);
             boolean going = true;
-            for (int number = 0; number < numbered && going; number++) {
+            for (int number = 0; number < Gluings.MOST && number < numbered && going; number++) {
                 for (int name = 0; name < Shape.CORNERS && going; name++) {
                     going = writeFace(byNumber[number], name);
                 }
@@ -1649,7 +1649,7 @@ public final class Tetrahedry {
             }
             inLine = 0;
             queue(cells.wholes.lowest[whole], 0);
-            for (int place = 0; place < inLine; place++) {
+            for (int place = 0; place < MOST_BLOCKS_OF_THIN && place < inLine; place++) {
                 int block = line[place];
                 for (int face = 0; face < Shape.CORNERS; face++) {
                     if (!gluings.isOpen(block, face)) {

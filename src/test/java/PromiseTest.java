@@ -331,6 +331,7 @@ public final class PromiseTest {
         Check.due("11 Gieseking", 'i', gieseking()::kind);
         Check.due("11 figure eight", 'i', figureEight()::kind);
         Check.due("11 a reversed edge", '-', glued(1, 0, 0, 0, 7)::kind);
+        Check.due("11 the first edge reversed", '-', glued(1, 0, 2, 0, 7)::kind);
         Check.due("11 a link that is a band", '-', glued(1, 0, 0, 0, 8)::kind);
         Tetrahedry x = fromCode(2, 2, 0, 8, 2, 0, 12, 2, 0, 3, 2, 0, 4, 0, 0, 0, 0);
         Check.due("11 k and d", 'i', x::kind);
@@ -433,6 +434,12 @@ public final class PromiseTest {
         Check.refused("18 no edge", INDEX, () -> x.isInner(4));
         Check.refused("18 no edge", INDEX, () -> x.isInner(-1));
         Check.due("18 sphere", true, () -> sphere().isInner(5));
+        Tetrahedry z = loose(1);
+        Check.due("18 before it is glued", false, () -> z.isInner(0));
+        z.glue(0, 2, 0, 1);
+        Check.due("18 when it is", true, () -> z.isInner(0));
+        z.unglue(0, 3);
+        Check.due("18 as it is open again", false, () -> z.isInner(0));
         Tetrahedry y = glued(2, 0, 0, 1, 0, 0, 1, 1, 0, 0, 2, 1, 0);
         boolean[] three = {false, false, true, false, true, true};
         for (int k = 0; k < 6; k++) {
@@ -501,6 +508,13 @@ public final class PromiseTest {
         Check.due("23 s", 's', () -> sphere().link(1));
         Check.due("23 t", 't', () -> figureEight().link(0));
         Check.due("23 k", 'k', () -> gieseking().link(0));
+        Tetrahedry later = fromCode(4, 0, 0, 0, 0, 2, 1, 8, 2, 1, 12, 2, 1, 3, 2, 1, 4, 0, 0, 0, 0, 0, 0, 0, 0);
+        Check.due("23 k behind others", 'k', () -> later.link(4));
+        Check.due("23 d behind it", 'd', () -> later.link(5));
+        for (int face = 0; face < 4; face++) {
+            later.glue(2, face, 3, new int[] {0, 8, 7, 19}[face]);
+        }
+        Check.due("23 t behind others", 't', () -> later.link(5));
         Tetrahedry band = glued(1, 0, 0, 0, 8);
         Check.due("23 o with open sides", 'o', () -> band.link(band.cornerOf(0, 3)));
         // the figure eight with a face open: a torus with open sides
@@ -735,10 +749,21 @@ public final class PromiseTest {
         Tetrahedry one = fromCode(1, 2, 0, 9, 2, 0, 18, 2, 0, 13, 2, 0, 10);
         Check.due("29 degree", 3, () -> one.edgeDegree(0));
         Check.refused("29 in one block", UNSUPPORTED, () -> one.threeForTwo(0));
+        inTwoBlocks(fromCode(2, 1, 2, 0, 2, 2, 0, 2, 2, 1, 0, 2, 0, 0, 2, 1, 9, 2, 1, 18, 2, 0, 0));
+        inTwoBlocks(fromCode(2, 1, 2, 0, 9, 2, 0, 18, 2, 1, 0, 2, 0, 0, 2, 1, 22, 2, 1, 17, 2, 0, 0));
+        inTwoBlocks(fromCode(2, 1, 2, 0, 2, 2, 0, 2, 2, 1, 7, 2, 0, 0, 2, 1, 17, 2, 0, 7, 2, 1, 22));
+        inTwoBlocks(fromCode(2, 1, 2, 0, 9, 2, 0, 18, 2, 1, 7, 2, 0, 0, 2, 1, 17, 2, 0, 7, 2, 1, 22));
         Tetrahedry back = figureEight();
         back.twoForThree(0, 3);
         Check.due("29 back", 2, () -> back.threeForTwo(back.edgeOf(0, 0)));
         Check.due("29 the same space", code(figureEight()), () -> code(back));
+    }
+
+    private static void inTwoBlocks(Tetrahedry x) {
+        for (int k = 0; k < x.edges(); k++) {
+            int edge = k;
+            Check.refused("29 no edge in two blocks goes", UNSUPPORTED, () -> x.threeForTwo(edge));
+        }
     }
 
     private static void p30OneForFour() {
@@ -764,11 +789,14 @@ public final class PromiseTest {
         spaceStays("30", lensAsTwo(), z -> z.oneForFour(1));
     }
 
-    /** Four blocks round a point, of the places 1, 3, 0 and 2 by names that are told, and a block 4. */
-    private static Tetrahedry roundAPoint(boolean twisted) {
+    /**
+     * Four blocks round a point, from the number base on, of the places 1, 3, 0 and 2 by names that are told, and a
+     * last block. Of a pair that is told as twisted two corners of the face are exchanged.
+     */
+    private static Tetrahedry roundAPoint(int base, int twistedOne, int twistedTwo) {
         int[] places = {1, 3, 0, 2};
         int[][] names = {{3, 1, 0, 2}, {0, 2, 3, 1}, {2, 1, 0, 3}, {1, 3, 2, 0}};
-        Tetrahedry x = loose(5);
+        Tetrahedry x = loose(base + 5);
         for (int i = 0; i < 4; i++) {
             for (int j = i + 1; j < 4; j++) {
                 int[] order = new int[4];
@@ -776,22 +804,31 @@ public final class PromiseTest {
                 for (int c = 0; c < 4; c++) {
                     int name = names[i][c];
                     face = name == places[j] ? c : face;
-                    name = name == places[i] ? places[j] : name == places[j] ? places[i] : name;
-                    if (twisted && i == 2 && name != 0 && name != 2) {
-                        name = 4 - name;
+                    if (name == places[i] || name == places[j]) {
+                        name = places[i] + places[j] - name;
+                    } else if (i == twistedOne && j == twistedTwo) {
+                        name = 6 - places[i] - places[j] - name;
                     }
                     for (int d = 0; d < 4; d++) {
                         order[c] = names[j][d] == name ? d : order[c];
                     }
                 }
-                x.glue(i, face, j, Oracle.orderNumber(order));
+                x.glue(base + i, face, base + j, Oracle.orderNumber(order));
             }
         }
         return x;
     }
 
+    /** A corner of the degree 4 that does not go. */
+    private static void pointStays(String what, Tetrahedry x, int block, int corner) {
+        Check.due(what + ", degree", 4, () -> x.cornerDegree(x.cornerOf(block, corner)));
+        x.setPieces(0, 1, 9);
+        Check.refused(what, UNSUPPORTED, () -> x.fourForOne(x.cornerOf(block, corner)));
+        Check.due(what + ", refused, pieces stay", 9, () -> x.setPieces(0, 1, 9));
+    }
+
     private static void p31FourForOne() {
-        Tetrahedry x = roundAPoint(false);
+        Tetrahedry x = roundAPoint(0, -1, -1);
         x.glue(4, 0, 1, 13);
         x.glue(4, 3, 0, 3);
         x.setPieces(0, 0, 1);
@@ -800,23 +837,30 @@ public final class PromiseTest {
         Check.due("31 no pieces", 0, () -> x.setPieces(0, 0, 0));
         Check.refused("31 no corner", INDEX, () -> x.fourForOne(x.corners()));
         Check.refused("31 no corner", INDEX, () -> x.fourForOne(-1));
-        Tetrahedry twisted = roundAPoint(true);
-        Check.due("31 degree", 4, () -> twisted.cornerDegree(twisted.cornerOf(0, 1)));
-        twisted.setPieces(0, 1, 9);
-        Check.refused("31 glued to each, but not so", UNSUPPORTED, () -> twisted.fourForOne(twisted.cornerOf(0, 1)));
-        Check.due("31 refused, pieces stay", 9, () -> twisted.setPieces(0, 1, 9));
-        Tetrahedry open = roundAPoint(false);
-        open.unglue(0, 0);
-        Check.due("31 degree", 4, () -> open.cornerDegree(open.cornerOf(0, 1)));
-        Check.refused("31 open", UNSUPPORTED, () -> open.fourForOne(open.cornerOf(0, 1)));
-        Check.due("31 degree", 4, () -> lensOfFour().cornerDegree(0));
-        Check.refused("31 in one block", UNSUPPORTED, () -> lensOfFour().fourForOne(0));
+        for (int one = 0; one < 4; one++) {
+            for (int two = one + 1; two < 4; two++) {
+                pointStays("31 glued to each, but not so", roundAPoint(0, one, two), 0, 1);
+            }
+        }
+        int[] points = {1, 2, 2, 2};
+        for (int base = 0; base < 2; base++) {
+            for (int at = 0; at < 12; at++) {
+                int face = at % 3 + (at % 3 < points[at / 3] ? 0 : 1);
+                Tetrahedry open = roundAPoint(base, -1, -1);
+                open.unglue(base + at / 3, face);
+                pointStays("31 open", open, base, 1);
+            }
+        }
+        pointStays("31 in one block", lensOfFour(), 0, 0);
         Check.refused("31 degree 2", UNSUPPORTED, () -> sphere().fourForOne(0));
         // the corner 3 of four blocks, 0 and 1, 2 and 3 glued there by two faces
         Tetrahedry pairs = glued(4, 0, 0, 1, 0, 0, 1, 1, 0, 2, 0, 3, 0, 2, 1, 3, 0, 0, 2, 2, 0, 1, 2, 3, 0);
-        Check.due("31 degree", 4, () -> pairs.cornerDegree(pairs.cornerOf(0, 3)));
         Check.due("31 a sphere", 's', () -> pairs.link(pairs.cornerOf(0, 3)));
-        Check.refused("31 in pairs", UNSUPPORTED, () -> pairs.fourForOne(pairs.cornerOf(0, 3)));
+        pointStays("31 in pairs", pairs, 0, 3);
+        // the corner 3 of four blocks, 0 glued to each other one, 1 to itself, 2 and 3 by two faces
+        pointStays("31 one to all", glued(4, 0, 0, 1, 0, 0, 1, 2, 0, 0, 2, 3, 0, 1, 1, 1, 2, 2, 0, 3, 0, 2, 2, 3, 2), 0, 3);
+        pointStays("31 one to itself", glued(4, 1, 0, 0, 0, 1, 1, 2, 0, 1, 2, 3, 0, 0, 1, 0, 2, 2, 0, 3, 0, 2, 2, 3, 2),
+                0, 3);
         Tetrahedry back = figureEight();
         back.oneForFour(0);
         spaceStays("31", back, z -> z.fourForOne(z.cornerOf(1, 0)));
@@ -846,6 +890,7 @@ public final class PromiseTest {
     }
 
     private static void p33RelatorLength() {
+        Check.due("33 the first call", 4, () -> smallSphere().relatorLength(1));
         Tetrahedry x = smallSphere();
         int[] due = {1, 4, 1};
         for (int k = 0; k < 3; k++) {
@@ -877,6 +922,7 @@ public final class PromiseTest {
     }
 
     private static void p34RelatorAt() {
+        Check.due("34 the first call", -2, () -> smallSphere().relatorAt(1, 1));
         relatorIs("34 small sphere", smallSphere(), 0, 2);
         relatorIs("34 small sphere", smallSphere(), 1, -1, -2, 1, 2);
         relatorIs("34 small sphere", smallSphere(), 2, 1);
@@ -916,6 +962,7 @@ public final class PromiseTest {
         Check.due("36 lens", 1, lensOfFour()::twists);
         Check.due("36 two twists", 2, quaternions()::twists);
         Check.due("36 fours", 8, eightOf(8)::twists);
+        Check.due("36 a four and a five", 1, glued(2, 0, 0, 0, 9, 0, 2, 0, 9, 1, 0, 1, 9, 1, 2, 1, 13)::twists);
         Check.due("36 fours and fives", 5, eightOf(5)::twists);
         Check.due("36 fours and fives", 4, eightOf(4)::twists);
         Check.due("36 a hole and a twist", 1, () -> fromCode(2, 1, 2, 1, 3, 2, 1, 23, 2, 1, 12, 2, 0, 0, 2, 0, 23,
@@ -935,6 +982,7 @@ public final class PromiseTest {
         Check.refused("37 no index", NONE, () -> quaternions().twistAt(-1));
         Check.refused("37 none", NONE, () -> sphere().twistAt(0));
         Check.refused("37 none", NONE, () -> new Tetrahedry().twistAt(0));
+        Check.due("37 a four and a five", 20L, () -> glued(2, 0, 0, 0, 9, 0, 2, 0, 9, 1, 0, 1, 9, 1, 2, 1, 13).twistAt(0));
         Tetrahedry x = eightOf(5);
         long[] due = {4, 4, 20, 20, 20};
         for (int k = 0; k < 5; k++) {
@@ -997,6 +1045,9 @@ public final class PromiseTest {
         Check.due("40 nothing changed", 3, () -> x.setPieces(0, 2, 3));
         x.setPieces(0, 4, 99);
         Check.due("40 another corner", 2, () -> x.putLink(0));
+        x.setPieces(0, 0, 99);
+        Check.refused("40 the first is at 99", UNSUPPORTED, () -> x.putLink(0));
+        Check.due("40 nothing changed", 1, () -> x.setPieces(0, 1, 1));
         Check.refused("40 no corner", INDEX, () -> x.putLink(2));
         Check.refused("40 no corner", INDEX, () -> x.putLink(-1));
         Check.refused("40 no corner", INDEX, () -> new Tetrahedry().putLink(0));
@@ -1028,6 +1079,11 @@ public final class PromiseTest {
         x.unglue(0, 3);
         x.unglue(1, 0);
         Check.due("41 open faces match", true, x::isMatched);
+        Tetrahedry last = glued(8, 6, 3, 7, 0);
+        last.setPieces(7, 0, 1);
+        Check.due("41 on the last blocks", false, last::isMatched);
+        last.setPieces(6, 0, 1);
+        Check.due("41 on the last blocks", true, last::isMatched);
         Tetrahedry y = glued(1, 0, 0, 0, 8);
         y.setPieces(0, 3, 1);
         Check.due("41 on one block", true, y::isMatched);
@@ -1043,15 +1099,16 @@ public final class PromiseTest {
         x.setPieces(0, 4, 99);
         x.setPieces(1, 5, 1);
         Check.due("42 one kind in each block", true, x::isSingle);
-        int[][] pairs = {{4, 5}, {4, 6}, {5, 6}};
-        for (int[] pair : pairs) {
-            Tetrahedry y = loose(2);
-            y.setPieces(1, pair[0], 1);
-            Check.due("42 one", true, y::isSingle);
-            y.setPieces(1, pair[1], 2);
-            Check.due("42 two", false, y::isSingle);
-            y.setPieces(1, pair[0], 0);
-            Check.due("42 the other", true, y::isSingle);
+        for (int block = 0; block < 8; block++) {
+            for (int[] pair : new int[][] {{4, 5}, {4, 6}, {5, 6}}) {
+                Tetrahedry y = loose(8);
+                y.setPieces(block, pair[0], 1);
+                Check.due("42 one", true, y::isSingle);
+                y.setPieces(block, pair[1], 2);
+                Check.due("42 two", false, y::isSingle);
+                y.setPieces(block, pair[0], 0);
+                Check.due("42 the other", true, y::isSingle);
+            }
         }
     }
 
@@ -1077,6 +1134,11 @@ public final class PromiseTest {
             disc.setPieces(0, k, 99);
             Check.due("43 discs", 99, disc::surfaceNumber);
         }
+        Tetrahedry eight = loose(8);
+        for (int b = 0; b < 8; b++) {
+            eight.setPieces(b, b % 7, b + 1);
+        }
+        Check.due("43 discs in all blocks", 36, eight::surfaceNumber);
         Tetrahedry two = glued(2, 0, 3, 1, 0);
         two.putLink(0);
         Check.due("43 a disc of two", 1, two::surfaceNumber);
@@ -1101,6 +1163,10 @@ public final class PromiseTest {
         Check.due("44 small sphere", 8, smallSphere()::countThin);
         // arcs with k ones and no two come in 1 + k ways, those with a two in one; the fourth triangle is free
         Check.due("44 a pair of faces", 4 * (1 + 3 * 4 + 3 * 9 + 16 + 12), glued(2, 0, 1, 1, 19)::countThin);
+        Check.due("44 a pair of first faces", 272, glued(2, 0, 0, 1, 0)::countThin);
+        Check.due("44 a pair of last faces", 272, glued(2, 0, 3, 1, 0)::countThin);
+        Check.due("44 two pairs, other names", glued(2, 0, 0, 1, 0, 0, 1, 1, 0).countThin(),
+                glued(2, 0, 0, 1, 6, 0, 1, 1, 6)::countThin);
         Check.due("44 and a loose block", 64 * 272, glued(3, 0, 1, 2, 19)::countThin);
         Tetrahedry x = glued(3, 0, 1, 2, 19);
         x.setPieces(0, 0, 5);
