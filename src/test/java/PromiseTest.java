@@ -1052,6 +1052,10 @@ public final class PromiseTest {
         Check.refused("40 no corner", INDEX, () -> x.putLink(-1));
         Check.refused("40 no corner", INDEX, () -> new Tetrahedry().putLink(0));
         Check.due("40 more blocks", 8, () -> figureEight().putLink(0));
+        Tetrahedry last = loose(3);
+        last.setPieces(2, 3, 99);
+        Check.refused("40 the last is at 99", UNSUPPORTED, () -> last.putLink(11));
+        Check.due("40 the one before", 1, () -> last.putLink(10));
     }
 
     private static void p41IsMatched() {
