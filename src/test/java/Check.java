@@ -2,12 +2,18 @@
 final class Check {
     private static int right;
     private static int wrong;
+    private static String about = "";
 
     private Check() {
     }
 
     interface Call {
         Object run();
+    }
+
+    /** What is told from now on is about this sentence. */
+    static void about(String sentence) {
+        about = sentence + ": ";
     }
 
     static void due(String what, Object want, Call call) {
@@ -30,8 +36,12 @@ final class Check {
             right++;
         } else {
             wrong++;
-            System.out.println(what + " answered " + got + ", due is " + want);
+            System.out.println(about + what + " answered " + got + ", due is " + want);
         }
+    }
+
+    static int told() {
+        return right + wrong;
     }
 
     static void end(String name) {

@@ -38,7 +38,7 @@ public final class PromiseTest {
     }
 
     /** The space that a code tells, its blocks and corners being named as the code names them. */
-    private static Tetrahedry fromCode(int blocks, int... row) {
+    static Tetrahedry fromCode(int blocks, int... row) {
         Tetrahedry x = loose(blocks);
         int fresh = 1;
         int at = 0;
@@ -70,7 +70,7 @@ public final class PromiseTest {
         return fromCode(2, 1, 2, 1, 8, 2, 1, 7, 2, 1, 19, 2, 0, 0, 2, 0, 11, 2, 0, 12, 2, 0, 7);
     }
 
-    private static List<Integer> code(Tetrahedry x) {
+    static List<Integer> code(Tetrahedry x) {
         List<Integer> row = new ArrayList<>();
         for (int k = 0; k < x.codeLength(); k++) {
             row.add(x.codeAt(k));
@@ -79,7 +79,7 @@ public final class PromiseTest {
     }
 
     /** All gluings of a bench, as blocks and orders; -1 for an open face. */
-    private static List<Integer> gluings(Tetrahedry x, int blocks) {
+    static List<Integer> gluings(Tetrahedry x, int blocks) {
         List<Integer> rows = new ArrayList<>();
         for (int b = 0; b < blocks; b++) {
             for (int f = 0; f < 4; f++) {
@@ -578,7 +578,7 @@ public final class PromiseTest {
         }
     }
 
-    private static Tetrahedry renamed(Tetrahedry x, int blocks, Lcg lcg) {
+    static Tetrahedry renamed(Tetrahedry x, int blocks, Lcg lcg) {
         int[] place = new int[blocks];
         int[] names = new int[blocks];
         for (int b = 0; b < blocks; b++) {

@@ -1,0 +1,77 @@
+import java.lang.reflect.InvocationTargetException;
+import java.lang.reflect.Method;
+import java.nio.file.Files;
+import java.nio.file.Path;
+import java.util.ArrayList;
+import java.util.Arrays;
+import java.util.Comparator;
+import java.util.List;
+import java.util.TreeMap;
+import java.util.TreeSet;
+
+/** Runs a test for each sentence, and looks whether the document says it, and whether none of its rows is left out. */
+final class Sentences {
+    /** Paragraphs by promise, 0 for what stands before the first one; blanks are one each. */
+    private final TreeMap<Integer, List<String>> chapters = new TreeMap<>();
+    private final TreeMap<Integer, TreeSet<String>> tested = new TreeMap<>();
+    private int tests;
+
+    Sentences() throws Exception {
+        String shared = System.getProperty("project.shared", "../shared");
+        String text = Files.readString(Path.of(shared, "DOC.md"));
+        int promise = 0;
+        for (String paragraph : text.substring(0, text.indexOf("## Not promised")).split("\n\n")) {
+            if (paragraph.startsWith("## Promise ")) {
+                promise = Integer.parseInt(paragraph.replaceAll("\\D+(\\d+):.*", "$1"));
+            }
+            chapters.computeIfAbsent(promise, k -> new ArrayList<>()).add(paragraph.replaceAll("\\s+", " ").trim());
+        }
+    }
+
+    void run(Class<?> tests) throws Exception {
+        Method[] all = tests.getDeclaredMethods();
+        Arrays.sort(all, Comparator.comparing(Method::getName));
+        for (Method test : all) {
+            Says says = test.getAnnotation(Says.class);
+            if (says != null) {
+                run(test, says);
+            }
+        }
+        Check.about(tests.getName());
+    }
+
+    private void run(Method test, Says says) throws Exception {
+        tests++;
+        Check.about((says.promise() == 0 ? "Terms" : "Promise " + says.promise()) + ", " + says.value());
+        boolean said = false;
+        for (String paragraph : chapters.getOrDefault(says.promise(), List.of())) {
+            said |= paragraph.contains(says.value());
+        }
+        Check.tell("the document", "says it", said ? "says it" : "does not say it");
+        tested.computeIfAbsent(says.promise(), k -> new TreeSet<>()).add(says.value());
+        test.setAccessible(true);
+        int before = Check.told();
+        try {
+            test.invoke(null);
+        } catch (InvocationTargetException e) {
+            Check.tell(test.getName(), "an end", e.getCause() + " at " + e.getCause().getStackTrace()[0]);
+        }
+        Check.tell(test.getName() + " tests something", true, Check.told() > before);
+    }
+
+    /** Each row 'Returns ..' and 'Throws ..' of each promise has a test that names it whole. */
+    void leaveNoRowOut() {
+        int rows = 0;
+        for (int promise = 1; promise <= 48; promise++) {
+            for (String row : chapters.getOrDefault(promise, List.of())) {
+                if (row.startsWith("Returns ") || row.startsWith("Throws `")) {
+                    rows++;
+                    boolean has = tested.containsKey(promise) && tested.get(promise).contains(row);
+                    Check.tell("a test of promise " + promise + ", " + row, true, has);
+                }
+            }
+        }
+        Check.tell("there are rows", true, rows > 100);
+        System.out.println(tests + " tests of sentences, " + rows + " of them rows of promises");
+    }
+}
