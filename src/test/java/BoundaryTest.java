@@ -6,7 +6,9 @@ public final class BoundaryTest {
     public static void main(String[] args) throws Exception {
         Sentences sentences = new Sentences();
         sentences.run(TermRows.class);
+        sentences.run(MeaningRows.class);
         sentences.run(ChangeRows.class);
+        sentences.run(ParameterRows.class);
         sentences.run(BlockRows.class);
         sentences.run(SpaceRows.class);
         sentences.run(CodeRows.class);
@@ -14,6 +16,7 @@ public final class BoundaryTest {
         sentences.run(GroupRows.class);
         sentences.run(SurfaceRows.class);
         sentences.leaveNoRowOut();
+        sentences.leaveNoTermOut();
         Check.end("BoundaryTest");
     }
 }

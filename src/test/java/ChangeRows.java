@@ -434,8 +434,8 @@ final class ChangeRows extends Rows {
         due("of the degree 4", 4, y -> y.relatorLength(y.edgeOf(0, 1)), x);
     }
 
-    @Says("its number, or less it, if it was gone through from the other side than that of the lower block, then lower"
-            + " face.")
+    @Says("The relator of the edge has, for each generator gone through, its number, or less it, if it was gone through"
+            + " from the other side than that of the lower block, then lower face.")
     private static void i04LessIt() {
         // from the edge 23 one goes through the face 0, the lower one; from 01 through the face 2; both pairs alike
         Tetrahedry low = Bench.space(1, 0, 0, 0, 6, 0, 2, 0, 1);

@@ -59,19 +59,52 @@ final class Sentences {
         Check.tell(test.getName() + " tests something", true, Check.told() > before);
     }
 
-    /** Each row 'Returns ..' and 'Throws ..' of each promise has a test that names it whole. */
+    /**
+     * Each row 'Returns ..' and 'Throws ..' of each promise, and each parameter's row that tells a range, has a test that
+     * names it whole.
+     */
     void leaveNoRowOut() {
         int rows = 0;
+        int ranges = 0;
         for (int promise = 1; promise <= 48; promise++) {
-            for (String row : chapters.getOrDefault(promise, List.of())) {
-                if (row.startsWith("Returns ") || row.startsWith("Throws `")) {
+            for (String paragraph : chapters.getOrDefault(promise, List.of())) {
+                if (paragraph.startsWith("Returns ") || paragraph.startsWith("Throws `")) {
                     rows++;
-                    boolean has = tested.containsKey(promise) && tested.get(promise).contains(row);
-                    Check.tell("a test of promise " + promise + ", " + row, true, has);
+                    isTested(promise, paragraph);
+                }
+                for (String row : paragraph.startsWith("- `") ? paragraph.substring(2).split(" - ") : new String[0]) {
+                    if (row.matches(".*\\d.*")) {
+                        ranges++;
+                        isTested(promise, row);
+                    }
                 }
             }
         }
         Check.tell("there are rows", true, rows > 100);
-        System.out.println(tests + " tests of sentences, " + rows + " of them rows of promises");
+        Check.tell("there are rows of ranges", true, ranges > 6);
+        System.out.println(tests + " tests of sentences, " + rows + " of them rows of promises, " + ranges + " of ranges");
+    }
+
+    private void isTested(int promise, String row) {
+        boolean has = tested.containsKey(promise) && tested.get(promise).contains(row);
+        Check.tell("a test of promise " + promise + ", " + row, true, has);
+    }
+
+    /** The tests of the chapter Terms name all that is written there, up to its examples. */
+    void leaveNoTermOut() {
+        List<String> all = chapters.get(0);
+        int first = all.indexOf("## Terms") + 1;
+        int end = all.indexOf("<p>Examples:");
+        Check.tell("the chapter Terms", true, first > 0 && end > first + 6);
+        for (String paragraph : all.subList(Math.max(0, first), Math.max(first, end))) {
+            String left = paragraph.replaceFirst("^<h2>[^<]*</h2> ", "");
+            for (String sentence : tested.getOrDefault(0, new TreeSet<>())) {
+                int at = paragraph.indexOf(sentence) - (paragraph.length() - left.length());
+                if (at >= 0) {
+                    left = left.substring(0, at) + " ".repeat(sentence.length()) + left.substring(at + sentence.length());
+                }
+            }
+            Check.tell("without a test", "", left.trim());
+        }
     }
 }

@@ -128,8 +128,8 @@ final class TermRows extends Rows {
                 x -> x.glue(0, 0, 1, -1));
     }
 
-    @Says("the corner k of the block goes to the k-th number of the order as a corner of another block, or of the same"
-            + " one;")
+    @Says("By a gluing of a face with an order, the corner k of the block goes to the k-th number of the order as a"
+            + " corner of another block, or of the same one;")
     private static void b05CornersGoToAnotherBlockOrTheSame() {
         for (int order = 0; order < 24; order++) {
             for (int face = 0; face < 4; face++) {
