@@ -1,7 +1,6 @@
 import java.util.ArrayList;
 import java.util.List;
 import java.util.Map;
-import java.util.NoSuchElementException;
 import java.util.TreeMap;
 import java.util.TreeSet;
 
@@ -12,35 +11,44 @@ import java.util.TreeSet;
 public final class CensusTest {
     private static final Map<String, TreeSet<String>> CODES = new TreeMap<>();
 
-    private static void glueOn(Tetrahedry x, int blocks) {
+    /** Rows of four numbers, as far as faces are glued: block, face, other, order. */
+    private static final List<int[]> ROWS = new ArrayList<>();
+
+    /** Glues the first open face in all ways, and so on; each space that comes of it is made anew. */
+    private static void glueOn(boolean[] glued) {
         int at = 0;
-        while (at < 4 * blocks && isGlued(x, at)) {
+        while (at < glued.length && glued[at]) {
             at++;
         }
-        if (at == 4 * blocks) {
-            note(x);
+        if (at == glued.length) {
+            note(made(glued.length / 4));
             return;
         }
-        for (int other = at / 4; other < blocks; other++) {
+        for (int other = at / 4; other < glued.length / 4; other++) {
             for (int order = 0; order < 24; order++) {
-                try {
-                    x.glue(at / 4, at % 4, other, order);
-                } catch (UnsupportedOperationException e) {
-                    continue;
+                int across = 4 * other + Oracle.ORDERS[order][at % 4];
+                if (across != at && !glued[across]) {
+                    glued[at] = true;
+                    glued[across] = true;
+                    ROWS.add(new int[] {at / 4, at % 4, other, order});
+                    glueOn(glued);
+                    ROWS.remove(ROWS.size() - 1);
+                    glued[at] = false;
+                    glued[across] = false;
                 }
-                glueOn(x, blocks);
-                x.unglue(at / 4, at % 4);
             }
         }
     }
 
-    private static boolean isGlued(Tetrahedry x, int at) {
-        try {
-            x.gluedTo(at / 4, at % 4);
-            return true;
-        } catch (NoSuchElementException e) {
-            return false;
+    private static Tetrahedry made(int blocks) {
+        Tetrahedry x = new Tetrahedry();
+        for (int k = 0; k < blocks; k++) {
+            x.addBlock();
         }
+        for (int[] row : ROWS) {
+            x.glue(row[0], row[1], row[2], row[3]);
+        }
+        return x;
     }
 
     private static void note(Tetrahedry x) {
@@ -59,14 +67,9 @@ public final class CensusTest {
         CODES.computeIfAbsent(name.toString(), k -> new TreeSet<>()).add(code.toString());
     }
 
-    private static Tetrahedry census(int blocks) {
+    private static void census(int blocks) {
         CODES.clear();
-        Tetrahedry x = new Tetrahedry();
-        for (int k = 0; k < blocks; k++) {
-            x.addBlock();
-        }
-        glueOn(x, blocks);
-        return x;
+        glueOn(new boolean[4 * blocks]);
     }
 
     private static int codes(String name) {

@@ -565,7 +565,7 @@ final class ChangeRows extends Rows {
                     Bench.pieces(y);
                     y.putLink(corner);
                     return y.surfaceNumber();
-                }, x);
+                }, bench.make());
             }
         }
         Tetrahedry sphere = Bench.sphere().make();

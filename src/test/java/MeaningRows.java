@@ -31,10 +31,12 @@ final class MeaningRows extends Rows {
             + " joined ones being one;")
     private static void a2PointsAndSides() {
         for (Bench bench : Bench.all()) {
-            Tetrahedry x = bench.make();
-            for (int k = 0; k < x.corners(); k++) {
+            int corners = bench.make().corners();
+            for (int k = 0; k < corners; k++) {
                 int corner = k;
-                int number = pointsAt(x, k, bench.blocks) - sidesAt(x, k, bench.blocks) + x.cornerDegree(k);
+                Tetrahedry x = bench.make();
+                int number = pointsAt(bench.make(), k, bench.blocks) - sidesAt(bench.make(), k, bench.blocks)
+                        + x.cornerDegree(k);
                 due("corner " + k + " of " + bench.name, number, y -> y.linkNumber(corner), x);
             }
         }
@@ -98,7 +100,7 @@ final class MeaningRows extends Rows {
     // -- codes
 
     /** How the code is written from a first block and an order. */
-    private static List<Integer> written(Tetrahedry x, int blocks, int first, int order) {
+    private static List<Integer> written(List<Integer> gluings, int blocks, int first, int order) {
         List<Integer> row = new ArrayList<>();
         List<Integer> byNumber = new ArrayList<>(List.of(first));
         int[][] cornerByName = new int[blocks][4];
@@ -108,13 +110,13 @@ final class MeaningRows extends Rows {
         for (int number = 0; number < byNumber.size(); number++) {
             int block = byNumber.get(number);
             for (int name = 0; name < 4; name++) {
-                int face = cornerByName[block][name];
-                if (!Bench.isGlued(x, block, face)) {
+                int glued = gluings.get(4 * block + cornerByName[block][name]);
+                if (glued < 0) {
                     row.add(0);
                     continue;
                 }
-                int other = x.gluedTo(block, face);
-                int by = x.gluedBy(block, face);
+                int other = glued / 24;
+                int by = glued % 24;
                 if (byNumber.contains(other)) {
                     row.addAll(List.of(2, byNumber.indexOf(other), byNames(cornerByName, block, by, other)));
                 } else {
@@ -155,9 +157,10 @@ final class MeaningRows extends Rows {
             Tetrahedry start = bench.make();
             for (int tries = 0; tries < 3 && start.parts() == 1; tries++) {
                 Tetrahedry x = PromiseTest.renamed(start, bench.blocks, lcg);
+                List<Integer> gluings = PromiseTest.gluings(x, bench.blocks);
                 List<Integer> least = null;
                 for (int k = 0; k < 24 * bench.blocks; k++) {
-                    List<Integer> row = written(x, bench.blocks, k / 24, k % 24);
+                    List<Integer> row = written(gluings, bench.blocks, k / 24, k % 24);
                     least = least == null || isLess(row, least) ? row : least;
                 }
                 due("the least of all on " + bench.name, least, y -> PromiseTest.code(y), x);

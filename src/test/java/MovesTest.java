@@ -15,11 +15,15 @@ public final class MovesTest {
             x.addBlock();
         }
         int tries = lcg.below(2) == 0 ? 200 : lcg.below(60);
-        for (int k = 0; k < tries && x.openFaces() > 0; k++) {
-            try {
-                x.glue(lcg.below(blocks), lcg.below(4), lcg.below(blocks), lcg.below(24));
-            } catch (UnsupportedOperationException e) {
-                continue;
+        boolean[] glued = new boolean[4 * blocks];
+        for (int k = 0; k < tries; k++) {
+            int[] row = {lcg.below(blocks), lcg.below(4), lcg.below(blocks), lcg.below(24)};
+            int face = 4 * row[0] + row[1];
+            int across = 4 * row[2] + Oracle.ORDERS[row[3]][row[1]];
+            if (face != across && !glued[face] && !glued[across]) {
+                x.glue(row[0], row[1], row[2], row[3]);
+                glued[face] = true;
+                glued[across] = true;
             }
         }
     }
@@ -27,13 +31,16 @@ public final class MovesTest {
     private List<Object> ofTheSpace() {
         List<Object> all = new ArrayList<>(List.of(x.parts(), x.isAlikeTurned(), x.kind(), x.number(), x.openFaces(),
                 x.holes(), x.isSound()));
-        for (int k = 0; k < x.twists(); k++) {
+        int twists = x.twists();
+        for (int k = 0; k < twists; k++) {
             all.add(x.twistAt(k));
         }
         List<String> links = new ArrayList<>();
-        for (int k = 0; k < x.corners(); k++) {
-            if (x.link(k) != 's') {
-                links.add(x.link(k) + " " + x.linkNumber(k));
+        int corners = x.corners();
+        for (int k = 0; k < corners; k++) {
+            char link = x.link(k);
+            if (link != 's') {
+                links.add(link + " " + x.linkNumber(k));
             }
         }
         Collections.sort(links);

@@ -1,6 +1,7 @@
 import java.lang.reflect.InvocationTargetException;
 import java.lang.reflect.Method;
 import java.util.ArrayList;
+import java.util.Arrays;
 import java.util.HashMap;
 import java.util.List;
 import java.util.Map;
@@ -13,9 +14,14 @@ public final class OracleTest {
     private static long compared;
     private static final Map<String, Integer> seen = new HashMap<>();
 
-    private final Tetrahedry ours = new Tetrahedry();
+    private static final int CALLS = 512;
+
+    private Tetrahedry ours = new Tetrahedry();
     private final Oracle theirs = new Oracle();
     private final List<String> log = new ArrayList<>();
+    /** The changes that were made, with their names first; by them the bench is made anew as its calls are used up. */
+    private final List<Object[]> changes = new ArrayList<>();
+    private int calls;
     private final Lcg lcg;
 
     private OracleTest(long seed) {
@@ -45,8 +51,21 @@ public final class OracleTest {
         }
     }
 
+    /** An object is asked no more than its 512 calls. */
+    private Object ask(String name, Object... args) {
+        if (calls == CALLS) {
+            ours = new Tetrahedry();
+            for (Object[] change : changes) {
+                answer(OURS.get((String) change[0]), ours, Arrays.copyOfRange(change, 1, change.length));
+            }
+            calls = changes.size();
+        }
+        calls++;
+        return answer(OURS.get(name), ours, args);
+    }
+
     private Object call(String name, Object... args) {
-        Object got = answer(OURS.get(name), ours, args);
+        Object got = ask(name, args);
         Object due = answer(THEIRS.get(name), theirs, args);
         compared++;
         String text = name + List.of(args) + " = " + got;
@@ -67,6 +86,12 @@ public final class OracleTest {
     private Object change(String name, Object... args) {
         Object got = call(name, args);
         log.add(name + List.of(args) + " = " + got);
+        if (!got.toString().startsWith("throws")) {
+            Object[] row = new Object[args.length + 1];
+            row[0] = name;
+            System.arraycopy(args, 0, row, 1, args.length);
+            changes.add(row);
+        }
         return got;
     }
 
@@ -81,7 +106,7 @@ public final class OracleTest {
             call(name);
         }
         int blocks = 0;
-        while (blocks < 8 && answer(OURS.get("edgeOf"), ours, blocks, 0) instanceof Integer) {
+        while (blocks < 8 && ask("edgeOf", blocks, 0) instanceof Integer) {
             blocks++;
         }
         for (int b = -1; b <= blocks; b++) {
@@ -134,9 +159,9 @@ public final class OracleTest {
     }
 
     private void randomChange() {
-        int blocks = Math.max(1, size(answer(OURS.get("corners"), ours)) > 0 ? countBlocks() : 0);
-        int edges = size(answer(OURS.get("edges"), ours));
-        int corners = size(answer(OURS.get("corners"), ours));
+        int blocks = Math.max(1, size(ask("corners")) > 0 ? countBlocks() : 0);
+        int edges = size(ask("edges"));
+        int corners = size(ask("corners"));
         switch (lcg.below(26)) {
             case 0: case 1: change("addBlock"); break;
             case 2: change(lcg.below(4) == 0 ? "clear" : "addBlock"); break;
@@ -166,7 +191,7 @@ public final class OracleTest {
 
     private int countBlocks() {
         int blocks = 0;
-        while (blocks < 8 && answer(OURS.get("edgeOf"), ours, blocks, 0) instanceof Integer) {
+        while (blocks < 8 && ask("edgeOf", blocks, 0) instanceof Integer) {
             blocks++;
         }
         return blocks;
@@ -190,7 +215,7 @@ public final class OracleTest {
             run.change("addBlock");
         }
         boolean odd = run.lcg.below(2) == 0;
-        for (int tries = 0; tries < 400 && size(answer(OURS.get("openFaces"), run.ours)) > 0; tries++) {
+        for (int tries = 0; tries < 400 && size(run.ask("openFaces")) > 0; tries++) {
             int order = run.lcg.below(24);
             if (!odd || (order / 6 + order % 6 / 2 + order % 2) % 2 == 1) {
                 run.change("glue", run.lcg.below(blocks), run.lcg.below(4), run.lcg.below(blocks), order);
@@ -199,8 +224,8 @@ public final class OracleTest {
         run.log.removeIf(s -> s.contains("throws"));
         run.compareAll(true);
         for (int k = 0; k < 12; k++) {
-            int edges = size(answer(OURS.get("edges"), run.ours));
-            int corners = size(answer(OURS.get("corners"), run.ours));
+            int edges = size(run.ask("edges"));
+            int corners = size(run.ask("corners"));
             int now = run.countBlocks();
             int pick = run.lcg.below(6);
             if (pick < 2) {

@@ -40,17 +40,19 @@ public final class PromiseTest {
     /** The space that a code tells, its blocks and corners being named as the code names them. */
     static Tetrahedry fromCode(int blocks, int... row) {
         Tetrahedry x = loose(blocks);
+        boolean[] glued = new boolean[4 * blocks];
         int fresh = 1;
         int at = 0;
         for (int k = 0; k < 4 * blocks; k++) {
             int told = row[at++];
             if (told == 1) {
-                x.glue(k / 4, k % 4, fresh++, 0);
+                glued[4 * fresh + x.glue(k / 4, k % 4, fresh, 0)] = true;
+                fresh++;
             } else if (told == 2) {
                 int other = row[at++];
                 int order = row[at++];
-                if (gluings(x, blocks).get(k) < 0) {
-                    x.glue(k / 4, k % 4, other, order);
+                if (!glued[k]) {
+                    glued[4 * other + x.glue(k / 4, k % 4, other, order)] = true;
                 }
             }
         }
@@ -570,10 +572,10 @@ public final class PromiseTest {
     /** The same space with other names of blocks and corners has the same code. */
     private static void codeIsLeastOverNames() {
         Lcg lcg = new Lcg(7);
-        Tetrahedry start = figureEight();
-        start.twoForThree(0, 1);
-        start.oneForFour(1);
         for (int tries = 0; tries < 20; tries++) {
+            Tetrahedry start = figureEight();
+            start.twoForThree(0, 1);
+            start.oneForFour(1);
             Check.due("25 other names", code(start), () -> code(renamed(start, 6, lcg)));
         }
     }
@@ -589,19 +591,19 @@ public final class PromiseTest {
             place[swap] = b;
         }
         Tetrahedry y = loose(blocks);
+        boolean[] glued = new boolean[4 * blocks];
         List<Integer> all = gluings(x, blocks);
         for (int at = 0; at < 4 * blocks; at++) {
             int b = at / 4;
-            if (all.get(at) >= 0) {
+            int face = Oracle.ORDERS[names[b]][at % 4];
+            if (all.get(at) >= 0 && !glued[4 * place[b] + face]) {
                 int[] order = new int[4];
                 for (int k = 0; k < 4; k++) {
                     int to = Oracle.ORDERS[all.get(at) % 24][k];
                     order[Oracle.ORDERS[names[b]][k]] = Oracle.ORDERS[names[all.get(at) / 24]][to];
                 }
-                int face = Oracle.ORDERS[names[b]][at % 4];
-                if (gluings(y, blocks).get(4 * place[b] + face) < 0) {
-                    y.glue(place[b], face, place[all.get(at) / 24], Oracle.orderNumber(order));
-                }
+                int other = place[all.get(at) / 24];
+                glued[4 * other + y.glue(place[b], face, other, Oracle.orderNumber(order))] = true;
             }
         }
         return y;

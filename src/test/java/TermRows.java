@@ -453,8 +453,8 @@ final class TermRows extends Rows {
     private static void f02CodesAreLeast() {
         Lcg lcg = new Lcg(11);
         for (Bench bench : Bench.all()) {
-            Tetrahedry x = bench.make();
-            for (int k = 0; k < 20 && x.parts() == 1; k++) {
+            for (int k = 0; k < 20 && bench.make().parts() == 1; k++) {
+                Tetrahedry x = bench.make();
                 due("other names of " + bench.name, PromiseTest.code(x), y -> PromiseTest.code(y),
                         PromiseTest.renamed(x, bench.blocks, lcg));
             }
